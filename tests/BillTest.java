@@ -23,6 +23,7 @@ public final class BillTest {
         due.is("18: mild 0, how many", x.best(1), 2);
         x.sway(2, 4);
         due.is("18: the least of several", x.best(0), 4);
+        due.is("18: bill 9", Due.on("r100,11,11;s09;s19").best(0), 9);
         x = Due.on("r100,11,11;s05;s06");
         due.is("18: none passes", x.best(0), 0);
         due.is("18: none passes, how many", x.best(1), 0);
@@ -57,6 +58,8 @@ public final class BillTest {
         due.is("20: fault()", x.fault(), 0);
         due.is("20: nothing is changed", x.ofMember(0, 2), 5);
         x = Due.on("r100,11,11;s09");
+        Due.lay(x, 1, 0, 0);
+        due.is("20: the least and the most origins", x.drift(1, 0, 0, 1, 4, 1) + x.drift(1, 0, 0, 1, 9, 1), Due.set(0, 9));
         Due.lay(x, 1, 0, 1, 1);
         due.is("20: by pools in which nobody sits", x.drift(1, 0, 0, 2, 4, 0), 4);
         Due.lay(x, 1, 0, new int[20]);
@@ -152,6 +155,8 @@ public final class BillTest {
         x.raise(3, 9);
         tideRow(x, 0, 3, -1);
         tideRow(x, 0, 4, 2, 2, 2);
+        x = Due.on("r100,81,81;s00");
+        tideRow(x, 0, 1, 9);
         due.is("22: nothing is changed", x.ofMember(0, 1), 0);
     }
 

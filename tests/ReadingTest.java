@@ -75,6 +75,10 @@ public final class ReadingTest {
         x.reading(1, 6, 1);
         due.is("25: readings that cannot all be so", x.heights(0), 0);
         due.is("25: nothing is changed", x.ofPool(0, 0), 4);
+        x = Due.on("r100,11,11,11,11,11,11;s00;s00;s00;s00;s00;s50");
+        x.reading(5, 2, 0);
+        due.is("25: the last pool and member", x.heights(5), Due.set(1));
+        due.is("26: the last pool and member", x.kinds(5), Due.set(0));
     }
 
     private static void kinds() {
@@ -147,5 +151,9 @@ public final class ReadingTest {
         due.is("28: 18 of 100, lower", x.odds(0, 1, 1), 50);
         due.is("28: 82 of 100", x.odds(0, 0, 0), 41);
         due.is("28: a crab in a slow stream", x.odds(1, 0, 0), 1);
+        x = Due.on("r100,81,81,81;s00");
+        due.is("28: 1 of 100", x.odds(0, 2, 0), 1);
+        due.is("28: 1 of 100, lower", x.odds(0, 2, 1), 100);
+        due.is("28: 81 of 100", x.odds(0, 0, 0), 81);
     }
 }

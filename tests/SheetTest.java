@@ -22,9 +22,15 @@ public final class SheetTest {
         TideSeats x = new TideSeats();
         due.is("29: 60 cells", x.sheet(3, 2, 60), 1);
         due.is("29: the last cell", x.cell(3, 59, 2), 0);
+        x.put(3, 0, 8);
         x.put(3, 5, 8);
+        x.put(3, 59, 8);
         due.is("29: a new row", x.sheet(3, 1, 6), 1);
         due.is("29: 0 at first", x.cell(3, 5, 1), 0);
+        due.is("29: cell 0, too", x.cell(3, 0, 1), 0);
+        x.sheet(3, 1, 60);
+        due.is("29: the last one, too", x.cell(3, 59, 1), 0);
+        x.sheet(3, 1, 6);
         due.is("29: no cell 6", x.cell(3, 6, 1), TideSeats.LOST);
         x.put(3, 5, 8);
         due.is("29: UNKNOWN 4", x.sheet(4, 3, 61), TideSeats.UNKNOWN);

@@ -182,19 +182,9 @@ public final class TideSeats {
     }
 
     public int year(int sheet, int lane, int i, int n, int what) {
-        latestFault = NO_FAULT;
-        if (!isSheet(sheet)) {
-            return UNKNOWN;
-        }
-        if (!isLane(lane) || !isWithin(n, 0, MOST_TOLD) || !isToldOfYears(what)) {
-            return OUTSIDE;
-        }
-        int fault = rowFault(sheets[sheet], lane, i, n);
-        if (fault != NO_FAULT) {
-            return faulted(fault);
-        }
-        if (!hasShore()) {
-            return STATE;
+        int refusal = refusalOfRow(sheet, lane, i, n, isToldOfYears(what));
+        if (refusal != 0) {
+            return refusal;
         }
         if (!sheets[sheet].areWithin(i, n, NINE)) {
             return OUTSIDE;
@@ -279,19 +269,9 @@ public final class TideSeats {
     }
 
     public int drift(int sheet, int lane, int i, int n, int v, int what) {
-        latestFault = NO_FAULT;
-        if (!isSheet(sheet)) {
-            return UNKNOWN;
-        }
-        if (!isLane(lane) || !isWithin(n, 0, MOST_TOLD) || !isDigit(v) || !isWithin(what, 0, 1)) {
-            return OUTSIDE;
-        }
-        int fault = rowFault(sheets[sheet], lane, i, n);
-        if (fault != NO_FAULT) {
-            return faulted(fault);
-        }
-        if (!hasShore()) {
-            return STATE;
+        int refusal = refusalOfRow(sheet, lane, i, n, isDigit(v) && isWithin(what, 0, 1));
+        if (refusal != 0) {
+            return refusal;
         }
         if (!sheets[sheet].areWithin(i, n, shore.pools - 1)) {
             return UNKNOWN;
@@ -647,6 +627,22 @@ public final class TideSeats {
     private int refusalUnless(boolean numberIsAsTold) {
         if (!numberIsAsTold) {
             return OUTSIDE;
+        }
+        return hasShore() ? 0 : STATE;
+    }
+
+    /** What a call of a row that is told answers ahead of its cells; 0: nothing, it goes on. */
+    private int refusalOfRow(int sheet, int lane, int i, int n, boolean otherNumbersAreAsTold) {
+        latestFault = NO_FAULT;
+        if (!isSheet(sheet)) {
+            return UNKNOWN;
+        }
+        if (!isLane(lane) || !isWithin(n, 0, MOST_TOLD) || !otherNumbersAreAsTold) {
+            return OUTSIDE;
+        }
+        int fault = rowFault(sheets[sheet], lane, i, n);
+        if (fault != NO_FAULT) {
+            return faulted(fault);
         }
         return hasShore() ? 0 : STATE;
     }
