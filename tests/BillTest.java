@@ -6,7 +6,9 @@ public final class BillTest {
     public static void main(String[] args) {
         best();
         turn();
+        edgesOfTurn();
         drift();
+        edgesOfDrift();
         refusalsOfDrift();
         leaps();
         elect();
@@ -27,6 +29,11 @@ public final class BillTest {
         x = Due.on("r100,11,11;s05;s06");
         due.is("18: none passes", x.best(0), 0);
         due.is("18: none passes, how many", x.best(1), 0);
+        x = Due.on("r100,11,11,11,11,11,11;s09;s19;s29;s39;s49;s59");
+        due.is("18: all six", x.best(1), 6);
+        due.is("18: the greatest bill", x.best(0), 9);
+        x.calm(9);
+        due.is("18: all ten are alike: the least", x.best(0), 0);
     }
 
     private static void turn() {
@@ -43,6 +50,50 @@ public final class BillTest {
         due.is("19: two of three, and one", x.turn(9), Due.set(0, 1, 3));
         x = Due.on("r100,11,11;s00;s00;s00;s04");
         due.is("19: the least of several", x.turn(9), 7);
+    }
+
+    private static void edgesOfTurn() {
+        TideSeats x = Due.on("r100,11,11;s03");
+        due.is("19: the only one", x.turn(0), 1);
+        due.is("19: the greatest bill", x.turn(9), 1);
+        due.is("19: the only one is for it", x.turn(3), 0);
+        x = Due.on("r100,11,11,11,11,11,11;s00;s10;s20;s30;s40;s50");
+        due.is("19: four of six pools, the least of 15 sets", x.turn(9), 15);
+        x.sway(0, 9);
+        x.sway(3, 9);
+        due.is("19: two more, the least of six sets", x.turn(9), Due.set(1, 2));
+        x = Due.on("r100,11,11;s00;s00;s00;s00;s00;s00");
+        due.is("19: four of six who sit", x.turn(9), 15);
+        x = Due.on("r100,11,11;s00;s00;s01;s11;s11;s10");
+        due.is("19: one in each of two pools", x.turn(0), Due.set(3));
+        x.sway(1, 1);
+        due.is("19: one in each of two pools, both not won", x.turn(0), Due.set(1, 3));
+        due.is("19: nothing is changed", x.ayes(0), Due.set(0, 5));
+    }
+
+    private static void edgesOfDrift() {
+        TideSeats x = Due.on("r100,11,11;s05;s05;s05;s05;s05;s04");
+        for (int lane = 0; lane <= 2; lane++) {
+            Due.lay(x, lane, lane, 0, 0, 1, 1, 0);
+            due.is("20: all origins", x.drift(lane, lane, 0, 2, 4, 1), 1023);
+            due.is("20: the least bill", x.drift(lane, lane, 0, 1, 0, 0), 4);
+            due.is("20: the greatest bill", x.drift(lane, lane, 0, 1, 9, 0), 5);
+            due.is("20: a pool in which nobody sits", x.drift(lane, lane, 2, 2, 9, 0), 9);
+            due.is("20: its only origin", x.drift(lane, lane, 2, 2, 9, 1), 512);
+            due.is("20: a row that ends with the sheet", x.drift(lane, lane, 3, 2, 0, 0), 4);
+            due.is("20: one that goes beyond it", x.drift(lane, lane, 3, 3, 0, 0), -13);
+            due.is("20: one of no cells at its end", x.drift(lane, lane, 5, 0, 0, 1), 1);
+            x.put(lane, 4, 2);
+            due.is("20: a cell is no pool, the last", x.drift(lane, lane, 3, 2, 0, 1), TideSeats.UNKNOWN);
+            due.is("20: it is not told", x.drift(lane, lane, 3, 1, 0, 1), 1);
+        }
+        x.sheet(3, 0, 0);
+        due.is("20: no pools of a sheet of none", x.drift(3, 0, 0, 0, 6, 0), 6);
+        x = Due.on("r100,11,11,11,11,11,11;s50;s51;s50;s50;s50;s50");
+        Due.lay(x, 0, 0, 5);
+        due.is("20: 10 by 7, the sixth pool", x.drift(0, 0, 0, 1, 9, 0), 1);
+        due.is("20: 6 by 7", x.drift(0, 0, 0, 1, 5, 0), 0);
+        due.is("20: origins of 0", x.drift(0, 0, 0, 1, 0, 1), 63);
     }
 
     private static void drift() {

@@ -17,7 +17,8 @@ public final class ModelTest {
         "trace ", "fault ", "many k", "shore SLIN",
     };
     private static final int RUNS = 3000;
-    private static final int CALLS_A_RUN = 480;
+    /** What is begun with the last of these, a text that is laid, ends ahead of call 512, behind which all is free. */
+    private static final int CALLS_A_RUN = 440;
 
     private final Random random;
     private final TideSeats seats = new TideSeats();

@@ -10,6 +10,8 @@ public final class ReadingTest {
         heights();
         kinds();
         streams();
+        edgesOfWhatIsLeft();
+        readingsThatAreFull();
         byHowAllIs();
         odds();
         due.end();
@@ -114,6 +116,60 @@ public final class ReadingTest {
         x.back(3);
         x.reading(0, 1, 0);
         due.is("27: a tide that washes nothing", x.streams(), 14);
+    }
+
+    private static void edgesOfWhatIsLeft() {
+        TideSeats x = Due.on("r100,41,41;s00");
+        x.reading(0, 9, 0);
+        due.is("25: it stayed by the highest tide", x.heights(0), Due.set(9));
+        due.is("25: the other one was not washed, then", x.heights(1), Due.set(9));
+        x.back(1);
+        x.reading(0, 5, 1);
+        x.raise(1, 1);
+        due.is("25: 1 to 4", x.heights(0), Due.set(1, 2, 3, 4));
+        x.back(1);
+        x.reading(0, 2, 1);
+        due.is("25: the lowest alone", x.heights(0), Due.set(1));
+        x.back(1);
+        x.reading(0, 1, 1);
+        due.is("25: nobody is carried by a tide of height 1", x.heights(0), 0);
+        due.is("26: nor as another kind", x.kinds(0), 0);
+        due.is("27: nor by another stream", x.streams(), 0);
+        x.back(1);
+        x.reading(0, 0, 0);
+        due.is("25: all stay by a tide of height 0", x.heights(0), 1022);
+        due.is("26: as each kind", x.kinds(0), 7);
+        due.is("27: by each stream", x.streams(), 14);
+        x = Due.on("r211,11,11,11,11;s00;c00;l00");
+        x.reading(0, 9, 1);
+        due.is("27: the weakest stream alone", x.streams(), Due.set(1));
+        x.back(1);
+        x.reading(1, 9, 2);
+        due.is("27: the strongest stream alone", x.streams(), Due.set(3));
+        x.back(1);
+        x.reading(2, 9, 0);
+        due.is("27: a limpet that stayed", x.streams(), Due.set(1));
+    }
+
+    private static void readingsThatAreFull() {
+        TideSeats x = Due.on("r100,11,11,11;s00;c10");
+        for (int k = 0; k < 7; k++) {
+            x.reading(0, 0, 0);
+        }
+        due.is("23: the eighth", x.reading(0, 9, 1), 7);
+        due.is("23: a ninth", x.reading(0, 9, 2), TideSeats.FULL);
+        due.is("23: FULL takes none", x.many(5), 8);
+        due.is("26: the eighth counts, the ninth does not", x.kinds(0), 1);
+        due.is("24: the eighth is taken back", x.back(1), 7);
+        due.is("26: without the eighth", x.kinds(0), 7);
+        due.is("23: the eighth, again", x.reading(0, 9, 2), 7);
+        due.is("26: the new eighth counts", x.kinds(0), 0);
+        due.is("24: eight at most", x.back(9), TideSeats.OUTSIDE);
+        due.is("24: all eight", x.back(8), 0);
+        due.is("24: none of none", x.back(0), 0);
+        due.is("26: no readings", x.kinds(0), 7);
+        due.is("25: no readings", x.heights(2), 1022);
+        due.is("27: no readings", x.streams(), 14);
     }
 
     private static void byHowAllIs() {

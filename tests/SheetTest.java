@@ -12,7 +12,9 @@ public final class SheetTest {
         telling();
         names();
         takenAs();
+        valuesOfTelling();
         traceWraps();
+        lastCall();
         faults();
         counts();
         due.end();
@@ -66,8 +68,9 @@ public final class SheetTest {
     private static void cells() {
         TideSeats x = new TideSeats();
         int[][] cut = {
-            {127, 127, 127, 127}, {128, -128, 128, 128}, {-129, 127, -129, -129}, {256, 0, 256, 256},
-            {32768, 0, -32768, 32768}, {-32769, -1, 32767, -32769}, {65537, 1, 1, 65537},
+            {127, 127, 127, 127}, {128, -128, 128, 128}, {-128, -128, -128, -128}, {-129, 127, -129, -129},
+            {255, -1, 255, 255}, {256, 0, 256, 256}, {32767, -1, 32767, 32767}, {32768, 0, -32768, 32768},
+            {-32768, 0, -32768, -32768}, {-32769, -1, 32767, -32769}, {65537, 1, 1, 65537}, {-1, -1, -1, -1},
             {Integer.MIN_VALUE, 0, 0, Integer.MIN_VALUE}, {Integer.MAX_VALUE, -1, -1, Integer.MAX_VALUE},
         };
         for (int lane = 0; lane <= 2; lane++) {
@@ -135,6 +138,18 @@ public final class SheetTest {
         row(x, 0, 1, 1, 2, 2, 3, 13);
         row(x, 1, 1, 2, 3, 13);
         due.is("33: fault()", x.fault(), 0);
+        x.sheet(2, 1, 0);
+        due.is("33: none of a sheet of none to another", x.copy(2, 0, 0, 5, 0), 0);
+        due.is("33: none to a sheet of none", x.copy(0, 5, 2, 0, 0), 0);
+        due.is("33: one to a sheet of none", x.copy(0, 0, 2, 0, 1), -13);
+        due.is("33: all to itself", x.copy(0, 0, 0, 0, 5), 5);
+        row(x, 0, 1, 1, 2, 2, 3, 13);
+        x.sheet(2, 0, 60);
+        x.sheet(3, 0, 60);
+        x.put(2, 59, 7);
+        due.is("33: 60 cells", x.copy(2, 0, 3, 0, 60), 60);
+        due.is("33: the last of 60", x.cell(3, 59, 0), 7);
+        due.is("33: 61 cells", x.copy(2, 0, 3, 0, 61), -13);
     }
 
     private static void faultsOfCopies() {
@@ -198,6 +213,17 @@ public final class SheetTest {
         due.is("34: by the view that is", x.tell(2), 100);
     }
 
+    private static void valuesOfTelling() {
+        TideSeats x = Due.on("r100,11,11;s00;s09;c00;c09;l00;l19");
+        int[] want = {0, 9, 100, 109, 100, 118};
+        for (int m = 0; m < want.length; m++) {
+            due.is("34: tell(" + m + ")", x.tell(m), want[m]);
+            due.is("35: name(" + m + ")", x.name(m), m < 4 ? m : 60);
+        }
+        due.is("34: UNKNOWN 6", x.tell(6), TideSeats.UNKNOWN);
+        due.is("35: UNKNOWN 6", x.name(6), TideSeats.UNKNOWN);
+    }
+
     private static void names() {
         TideSeats x = Due.on("r100,11,11;l05;c07;s09;l09");
         due.is("35: a crab", x.name(1), 1);
@@ -241,6 +267,17 @@ public final class SheetTest {
             }
             due.is("37: wraps", x.trace(), trace);
         }
+    }
+
+    /** An object is used for at most 512 calls: the last of them is answered as the first is. */
+    private static void lastCall() {
+        TideSeats x = Due.on("r100,11,11;l05");
+        int trace = 0;
+        for (int call = 17; call <= 511; call++) {
+            x.name(0);
+            trace = trace * 31 + 5;
+        }
+        due.is("37: the 512th call", x.trace(), trace);
     }
 
     private static void faults() {

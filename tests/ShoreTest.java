@@ -7,13 +7,18 @@ public final class ShoreTest {
     public static void main(String[] args) {
         newObject();
         textsThatAreTaken();
+        fewestAndMost();
         firstFaults();
+        beginningsOfTheLongest();
+        rowsOfTexts();
         takenAnew();
         refusalsOfShore();
         faultsOfShore();
         pools();
         members();
         changes();
+        spans();
+        changesThatChangeNothing();
         changesWithoutShore();
         due.end();
     }
@@ -25,9 +30,14 @@ public final class ShoreTest {
         }
         for (int k = 0; k <= 3; k++) {
             due.is("1: lose(" + k + ")", x.lose(k), 0);
+            due.is("1: ofPool(" + k + ", 0)", x.ofPool(k, 0), TideSeats.UNKNOWN);
+            due.is("1: ofMember(" + k + ", 0)", x.ofMember(k, 0), TideSeats.UNKNOWN);
         }
         due.is("1: fault()", x.fault(), 0);
         due.is("1: trace()", x.trace(), 0);
+        due.is("1: a shore on nothing", x.shore(0, 0, 0, 0), -11);
+        due.is("1: a cell of nothing", x.cell(0, 0, 0), TideSeats.LOST);
+        due.is("1: its fault()", x.fault(), 1);
     }
 
     private static void textsThatAreTaken() {
@@ -50,6 +60,59 @@ public final class ShoreTest {
         }
     }
 
+    private static void fewestAndMost() {
+        String[] texts = {
+            "r100,11,11;s00", "r399,99,99;l19", "r100,11,11;s00;s00;s00;s00;s00;c19", "r100,11,11,11,11,11,99;l59", LONGEST,
+        };
+        int[][] want = {{2, 1, 1, 0, 0}, {2, 1, 3, 9, 9}, {2, 6, 1, 0, 0}, {6, 1, 1, 0, 0}, {6, 6, 3, 9, 9}};
+        int[][] last = {{1, 1, 0, 0, 0}, {9, 9, 2, 1, 9}, {1, 1, 1, 1, 9}, {9, 9, 2, 5, 9}, {9, 9, 2, 5, 9}};
+        for (int t = 0; t < texts.length; t++) {
+            TideSeats x = Due.on(texts[t]);
+            int q = want[t][0] - 1;
+            int m = want[t][1] - 1;
+            int[] got = {x.many(1), x.many(0), x.many(2), x.many(3), x.many(4)};
+            int[] ends = {x.ofPool(q, 0), x.ofPool(q, 1), x.ofMember(m, 0), x.ofMember(m, 1), x.ofMember(m, 2)};
+            for (int k = 0; k < 5; k++) {
+                due.is("2: number " + k + " of " + texts[t], got[k], want[t][k]);
+                due.is("2: number " + k + " of the last ones of " + texts[t], ends[k], last[t][k]);
+            }
+            due.is("2: no further pool of " + texts[t], x.ofPool(q + 1, 0), TideSeats.UNKNOWN);
+            due.is("2: no further member of " + texts[t], x.ofMember(m + 1, 0), TideSeats.UNKNOWN);
+        }
+    }
+
+    /** Of the longest text each beginning is a text behind a member, and ends too soon elsewhere. */
+    private static void beginningsOfTheLongest() {
+        int head = LONGEST.indexOf(';');
+        for (int n = 0; n <= LONGEST.length(); n++) {
+            boolean isText = n > head && (n - head) % 4 == 0;
+            int want = isText ? (n - head) / 4 : -100 - n;
+            due.is("2: " + n + " codes of the longest", Due.shore(new TideSeats(), LONGEST.substring(0, n)), want);
+        }
+        for (char more : ";,sclr09 ".toCharArray()) {
+            due.is("2: a code too many, " + more, Due.shore(new TideSeats(), LONGEST + more), -100 - LONGEST.length());
+        }
+    }
+
+    private static void rowsOfTexts() {
+        TideSeats x = new TideSeats();
+        String text = "r100,11,99;l19";
+        Due.lay(x, 1, 1, Due.codes("......" + text));
+        due.is("2: a row that ends with the sheet", x.shore(1, 1, 6, 14), 1);
+        due.is("2: one that goes beyond it", x.shore(1, 1, 6, 15), -13);
+        due.is("2: one of no cells at the sheet's end", x.shore(1, 1, 20, 0), -100);
+        due.is("2: one of no cells behind that", x.shore(1, 1, 21, 0), -13);
+        due.is("2: one of no cells ahead of the first", x.shore(1, 1, -1, 0), -13);
+        x.sheet(2, 2, 0);
+        due.is("2: no cells of a sheet of none", x.shore(2, 2, 0, 0), -100);
+        due.is("2: a cell of a sheet of none", x.shore(2, 2, 0, 1), -13);
+        due.is("2: a sheet of none is of its lane", x.shore(2, 1, 0, 0), -12);
+        Due.lay(x, 0, 0, new int[60]);
+        due.is("2: the longest row", x.shore(0, 0, 0, 60), -100);
+        due.is("2: beyond the longest row", x.shore(0, 0, 0, 61), -13);
+        due.is("2: the first shore is there still", x.many(0), 1);
+    }
+
     private static void firstFault(String text, int place) {
         TideSeats x = Due.on("r121,11,11;s00;s00");
         due.is("2: shore of " + text, Due.shore(x, text), -100 - place);
@@ -70,6 +133,12 @@ public final class ShoreTest {
             "r100,11,11;s00x", "r100,11,11;s000", "r100,11,11,11;s3", "r100,11,11,11,11,11,11,", "r100,11,11,11,11,11,11x",
             "r100,11,11,11,11,11,11;s6", "r100,11,11;s00;s00;s00;s00;s00;s00;", "r100,11,11;s00;s00;s00;s00;s00;s00,",
         };
+        firstFault("r9x", 1);
+        firstFault("r1x9", 2);
+        firstFault("r100,1x,", 6);
+        firstFault("r100;,", 4);
+        firstFault("r100,11,11;x99", 11);
+        firstFault("r100,11,11,11,11,11,11,;", 22);
         for (String text : wrongFrom) {
             firstFault(text, text.length() - 1);
             firstFault(text + "11;s00", text.length() - 1);
@@ -151,6 +220,39 @@ public final class ShoreTest {
         due.is("3: OUTSIDE 4", x.ofPool(0, 4), TideSeats.OUTSIDE);
         due.is("3: OUTSIDE -1", x.ofPool(0, -1), TideSeats.OUTSIDE);
         due.is("3: UNKNOWN without a shore", new TideSeats().ofPool(0, 0), TideSeats.UNKNOWN);
+    }
+
+    private static void spans() {
+        TideSeats x = Due.on("r100,11,91,59;s00;s00;s00;s00;s00;s00");
+        due.is("3: the set of all who sit", x.ofPool(0, 2), 63);
+        due.is("3: the set of nobody", x.ofPool(1, 2), 0);
+        due.is("3: 6 by 7 is cut", x.ofPool(0, 3), 0);
+        due.is("3: 6 by 1", x.ofPool(1, 3), 6);
+        due.is("3: 54 by 1", x.ofPool(2, 3), 54);
+        for (int m = 0; m < 6; m++) {
+            x.seat(m, 2);
+            due.is("3: 54 by " + (m + 2), x.ofPool(2, 3), new int[] {27, 18, 13, 10, 9, 7}[m]);
+        }
+        due.is("3: the height counts nothing", x.raise(2, 1), 5);
+        due.is("3: 54 by 7, whatever the height", x.ofPool(2, 3), 7);
+    }
+
+    private static void changesThatChangeNothing() {
+        TideSeats x = Due.on("r399,11,99;s09;l10");
+        due.is("5: as high as it was", x.raise(1, 9), 9);
+        due.is("5: as low as it was", x.raise(0, 1), 1);
+        due.is("6: the view that it was", x.sway(0, 9), 9);
+        due.is("6: the least view that it was", x.sway(1, 0), 0);
+        due.is("7: to the pool in which one sits", x.seat(1, 1), 1);
+        due.is("7: to the first pool, in which one sits", x.seat(0, 0), 0);
+        due.is("8: as strong as it was", x.flow(3), 3);
+        due.is("9: as mild as it was", x.calm(9), 9);
+        due.is("10: as far as it was", x.leap(9), 9);
+        int[] all = {x.ofPool(0, 0), x.ofPool(1, 0), x.ofMember(0, 2), x.ofMember(1, 2), x.ofMember(0, 1), x.ofMember(1, 1)};
+        int[] want = {1, 9, 9, 0, 0, 1};
+        for (int k = 0; k < all.length; k++) {
+            due.is("5 to 7: number " + k, all[k], want[k]);
+        }
     }
 
     private static void members() {

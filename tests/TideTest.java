@@ -7,10 +7,13 @@ public final class TideTest {
     public static void main(String[] args) {
         tides();
         ringOfWashedPools();
+        edgesOfTides();
         bills();
         laws();
+        edgesOfBills();
         refusals();
         years();
+        edgesOfYears();
         yearsThatWashNothing();
         refusalsOfYears();
         faultsOfYears();
@@ -54,6 +57,32 @@ public final class TideTest {
         due.is("12: a shrimp in a slow stream", x.carried(0, 9), 2);
     }
 
+    private static void edgesOfTides() {
+        TideSeats x = Due.on("r111,11,91,11;s00;s10;l20");
+        due.is("11: no pool is lower than 0", x.washed(0), 0);
+        due.is("11: a pool of height 1 by a tide of height 1", x.washed(1), 0);
+        due.is("11: a pool of height 1 by a tide of height 2", x.washed(2), 5);
+        due.is("11: a pool of height 9 by the highest tide", x.washed(9), 5);
+        due.is("12: as high as the tide", x.carried(0, 1), 0);
+        due.is("12: behind the last pool the first one", x.carried(2, 9), 2);
+        x.flow(2);
+        due.is("12: a limpet by half of 2", x.carried(2, 9), 0);
+        due.is("12: a shrimp by 2 among 2", x.carried(0, 9), 0);
+        x.flow(3);
+        due.is("12: a limpet by half of 3, cut", x.carried(2, 9), 0);
+        due.is("12: a shrimp by 3 among 2", x.carried(0, 9), 2);
+        x.reading(0, 9, 2);
+        due.is("13: two sit elsewhere", x.tide(9), 2);
+        due.is("13: readings stay", x.many(5), 1);
+        due.is("13: the first pool comes again", x.ofMember(2, 1), 0);
+        x.raise(0, 9);
+        due.is("13: one pool is washed: nobody sits elsewhere", x.tide(9), 0);
+        due.is("13: there one stays", x.ofMember(0, 1), 2);
+        x = Due.on("r100,11,11,11,11,11,11;s50;s50;s50;s50;s50;s50");
+        due.is("13: all of six", x.tide(9), 6);
+        due.is("13: all behind the sixth pool", x.ofPool(0, 2), 63);
+    }
+
     private static void bills() {
         TideSeats x = Due.on("r120,11,11,11;s05;s07;s13;s19;s18");
         due.is("14: ayes(5)", x.ayes(5), Due.set(0, 1, 2));
@@ -78,6 +107,35 @@ public final class TideTest {
         due.is("16: one of four", x.law(2), 0);
         x.seat(3, 2);
         due.is("16: pools in which nobody sits do not count", x.law(5), 1);
+    }
+
+    private static void edgesOfBills() {
+        TideSeats x = Due.on("r100,11,11;s00;s19");
+        due.is("14: the least bill", x.ayes(0), 1);
+        due.is("14: the greatest bill", x.ayes(9), 2);
+        due.is("15: the least bill", x.passes(0), 1);
+        due.is("15: the greatest bill", x.passes(9), 2);
+        due.is("16: one of two is no more than half", x.law(9), 0);
+        x.calm(8);
+        due.is("14: 8 off, mild 8", x.ayes(8), 3);
+        due.is("14: 9 off, mild 8", x.ayes(9), 2);
+        due.is("14: 9 off the other way, mild 8", x.ayes(0), 1);
+        x.calm(9);
+        due.is("14: 9 off, mild 9", x.ayes(9), 3);
+        due.is("16: both", x.law(0), 1);
+        x = Due.on("r100,11,11,11,11,11,11;s50");
+        due.is("15: one alone, in the sixth pool", x.passes(0), 32);
+        due.is("16: one pool of one, though five are empty", x.law(0), 1);
+        due.is("16: none of one", x.law(1), 0);
+        x = Due.on("r100,11,11,11,11,11,11;s00;s10;s20;s31;s41;s51");
+        due.is("15: three of six", x.passes(1), 56);
+        due.is("16: three of six", x.law(1), 0);
+        x.sway(2, 1);
+        due.is("16: four of six", x.law(1), 1);
+        x = Due.on("r100,11,11;s00;s00;s00;s01;s01;s01");
+        due.is("15: three of six who sit", x.passes(0), 0);
+        x.sway(3, 0);
+        due.is("15: four of six who sit", x.passes(0), 1);
     }
 
     private static void refusals() {
@@ -145,6 +203,40 @@ public final class TideTest {
         year(x, 2, 24, 0);
         year(x, 2, 29, 1);
         year(x, 1, 3, 0);
+    }
+
+    private static void edgesOfYears() {
+        TideSeats x = Due.on("r100,11,11,11,11,11,11;s00;s00;s00;s00;s00;s00");
+        for (int lane = 0; lane <= 2; lane++) {
+            int[] tides = new int[20];
+            java.util.Arrays.fill(tides, 2);
+            Due.lay(x, lane, lane, tides);
+            due.is("17: 20 tides, all in all", x.year(lane, lane, 0, 20, 0), 120);
+            due.is("17: 20 tides, none wrong", x.year(lane, lane, 0, 20, 1), TideSeats.NONE);
+            due.is("17: 20 tides, one pool", x.year(lane, lane, 0, 20, 2), 1);
+            due.is("17: 20 tides, the third pool", x.year(lane, lane, 0, 20, 3), 2);
+            due.is("17: 20 tides, member 5", x.year(lane, lane, 0, 20, 15), 2);
+            due.is("17: 20 tides, bill 0", x.year(lane, lane, 0, 20, 20), 1);
+            due.is("17: 20 tides, bill 9", x.year(lane, lane, 0, 20, 29), 0);
+            due.is("17: a row that ends with the sheet", x.year(lane, lane, 15, 5, 3), 5);
+            due.is("17: one that goes beyond it", x.year(lane, lane, 15, 6, 3), -13);
+            due.is("17: one of no cells at its end", x.year(lane, lane, 20, 0, 3), 0);
+            x.put(lane, 19, 1);
+            due.is("17: the last one is wrong", x.year(lane, lane, 0, 20, 0), -119);
+            due.is("17: the last one is wrong, told", x.year(lane, lane, 0, 20, 1), 19);
+            due.is("17: the years ahead of it are not", x.year(lane, lane, 0, 19, 0), 114);
+            x.put(lane, 0, 9);
+            due.is("17: the highest tide", x.year(lane, lane, 0, 1, 0), 6);
+            x.put(lane, 0, 10);
+            due.is("17: one above it", x.year(lane, lane, 0, 1, 1), TideSeats.OUTSIDE);
+            x.put(lane, 0, 0);
+            due.is("17: the lowest tide", x.year(lane, lane, 0, 1, 1), 0);
+            x.put(lane, 0, -1);
+            due.is("17: one below it", x.year(lane, lane, 0, 1, 1), TideSeats.OUTSIDE);
+        }
+        x.sheet(3, 1, 0);
+        due.is("17: no tides of a sheet of none", x.year(3, 1, 0, 0, 1), TideSeats.NONE);
+        due.is("17: all sit as they do now", x.year(3, 1, 0, 0, 2), 1);
     }
 
     private static void yearsThatWashNothing() {
