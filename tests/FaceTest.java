@@ -6,6 +6,8 @@ import java.lang.reflect.Modifier;
 import java.nio.file.Files;
 import java.nio.file.Path;
 import java.util.Arrays;
+import java.util.HashMap;
+import java.util.Map;
 import java.util.Set;
 import java.util.TreeSet;
 import java.util.regex.Matcher;
@@ -22,8 +24,11 @@ public final class FaceTest {
         constants();
         publicMembersAreTheDocuments();
         hiddenMembersArePrivate();
+        linesOfTheFace();
+        headings();
         insideClasses();
         words();
+        nothingIsMadeByCalls();
         due.end();
     }
 
@@ -84,6 +89,45 @@ public final class FaceTest {
         }
     }
 
+    /** Each line of the document's face stands in the source, in its order (a method's with a body). */
+    private static void linesOfTheFace() throws IOException {
+        String source = Files.readString(SOURCE);
+        Matcher line = Pattern.compile("(?m)^(public final class TideSeats \\{|    public .*;)$").matcher(Files.readString(DOC));
+        int lines = 0;
+        int at = 0;
+        while (line.find()) {
+            lines++;
+            String told = line.group().contains("(") ? line.group().replace(";", " {") : line.group();
+            int place = source.indexOf("\n" + told + "\n");
+            due.is("in its order: " + told, place >= at ? 1 : 0, 1);
+            at = Math.max(at, place);
+        }
+        due.is("lines of the face", lines, 42);
+    }
+
+    /** Each call stands behind the heading of its part and ahead of the next one. */
+    private static void headings() throws IOException {
+        String[] lines = Files.readString(SOURCE).split("\n");
+        Map<String, String> parts = new HashMap<>();
+        String part = "";
+        for (String line : lines) {
+            part = line.startsWith("    // ---- ") ? line.substring(7) : part;
+            Matcher call = Pattern.compile("    public (?:int|long) (\\w+)\\(.*").matcher(line);
+            if (call.matches()) {
+                parts.put(call.group(1), part);
+            }
+        }
+        Matcher told = Pattern.compile("(?m)^Ahead of the calls (.*) the interface says: (---- .*)\\.$").matcher(Files.readString(DOC));
+        int calls = 0;
+        while (told.find()) {
+            for (String call : told.group(1).replace("`", "").split(", ")) {
+                calls++;
+                due.is(call + " stands behind " + told.group(2), told.group(2).equals(parts.get(call)) ? 1 : 0, 1);
+            }
+        }
+        due.is("calls that stand behind a heading", calls, 38);
+    }
+
     private static void insideClasses() {
         Class<?>[] inside = TideSeats.class.getDeclaredClasses();
         due.is("some twelve classes at most", inside.length <= 12 ? 1 : 0, 1);
@@ -102,6 +146,18 @@ public final class FaceTest {
             "\\bimport\\b", "\\bpackage\\b", "\\bprotected\\b", "Exact\\b", "\\bvar\\b", "\\bObject\\b", "System\\.(?!arraycopy)"};
         for (String word : left) {
             due.is("source has " + word, Pattern.compile(word).matcher(code).find() ? 1 : 0, 0);
+        }
+    }
+
+    /** All calls of one run live in one room: what an object needs is made with it. */
+    private static void nothingIsMadeByCalls() throws IOException {
+        boolean inConstructor = false;
+        for (String line : Files.readString(SOURCE).replaceAll("(?s)/\\*.*?\\*/|//[^\n]*", "").split("\n")) {
+            inConstructor = line.startsWith("    public TideSeats()") || inConstructor && !line.equals("    }");
+            if (Pattern.compile("\\bnew\\b").matcher(line).find()) {
+                boolean isOfAField = line.matches("        (private )?final .*;");
+                due.is("made with the object: " + line, inConstructor || isOfAField ? 1 : 0, 1);
+            }
         }
     }
 }

@@ -6,7 +6,7 @@ public final class RefusalTest {
     private static final int NULL = 1, CAST = 2, INDEX = 3, SIZE = 4;
     private static final World.Kind NO_SHORE = World.Kind.BARE;
     private static final int[] NO_SHEET = {MIN, -1, 4, MAX}, NO_LANE = {MIN, -1, 3, MAX};
-    /** World has four pools and five members. */
+    /** World has four pools and five members: its last member bears the number of no pool. */
     private static final int[] NO_POOL = {MIN, -1, 4, 6, MAX}, NO_MEMBER = {MIN, -1, 5, 6, MAX};
     private static final int[] NO_DIGIT = {MIN, -1, 10, MAX};
     private static final Due due = new Due();
@@ -95,8 +95,8 @@ public final class RefusalTest {
     private static void waysAndSeats() {
         Wrongs.ofPlain(due, 21, "leaps", 0, 3, -1).where(NO_SHORE, UNKNOWN).refused(UNKNOWN, 0, NO_POOL)
             .refused(UNKNOWN, 1, NO_POOL).refused(OUTSIDE, 2, MIN, -2, 6, MAX).checkAsking(2);
-        Wrongs.ofPlain(due, 22, "elect", 0, 3, -1).where(NO_SHORE, UNKNOWN).refused(UNKNOWN, 0, NO_MEMBER)
-            .refused(UNKNOWN, 1, NO_POOL).refused(OUTSIDE, 2, MIN, -2, 5, MAX).checkAsking(3);
+        Wrongs.ofPlain(due, 22, "elect", 4, 3, -1).where(NO_SHORE, UNKNOWN).refused(UNKNOWN, 0, NO_MEMBER)
+            .refused(UNKNOWN, 1, NO_POOL).refused(OUTSIDE, 2, MIN, -2, 5, MAX).checkAsking(2);
     }
 
     private static void readings() {
@@ -104,9 +104,9 @@ public final class RefusalTest {
             .refused(OUTSIDE, 1, NO_DIGIT).refused(UNKNOWN, 2, NO_POOL).where(World.Kind.FULL, FULL).check(2);
         Wrongs.ofPlain(due, 24, "back", 2).refused(OUTSIDE, 0, MIN, -1, 3, MAX).where(NO_SHORE, OUTSIDE).check(0);
         Wrongs.ofPlain(due, 25, "heights", 0).where(NO_SHORE, UNKNOWN).refused(UNKNOWN, 0, NO_POOL).checkAsking(62);
-        Wrongs.ofPlain(due, 26, "kinds", 0).where(NO_SHORE, UNKNOWN).refused(UNKNOWN, 0, NO_MEMBER).checkAsking(1);
+        Wrongs.ofPlain(due, 26, "kinds", 4).where(NO_SHORE, UNKNOWN).refused(UNKNOWN, 0, NO_MEMBER).checkAsking(7);
         Wrongs.ofPlain(due, 27, "streams").where(NO_SHORE, STATE).checkAsking(4);
-        Wrongs.ofPlain(due, 28, "odds", 0, 0, 1).where(NO_SHORE, TideSeats.LOST).lost(0, 0, NO_MEMBER)
+        Wrongs.ofPlain(due, 28, "odds", 4, 1, 1).where(NO_SHORE, TideSeats.LOST).lost(0, 0, NO_MEMBER)
             .lost(0, 1, NO_POOL).lost(0, 2, MIN, -1, 2, MAX).checkAsking(25);
     }
 

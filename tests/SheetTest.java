@@ -63,6 +63,16 @@ public final class SheetTest {
         due.is("30: UNKNOWN -1", x.lose(-1), TideSeats.UNKNOWN);
         x.sheet(0, 0, 1);
         due.is("30: a new row then", x.lose(0), 1);
+        for (int lost = 0; lost <= 3; lost++) {
+            x = new TideSeats();
+            for (int k = 0; k <= 3; k++) {
+                Due.lay(x, k, 0, 7 + k);
+            }
+            due.is("30: sheet " + lost, x.lose(lost), 1);
+            for (int k = 0; k <= 3; k++) {
+                due.is("30: sheet " + k + " behind it", x.cell(k, 0, 0), k == lost ? TideSeats.LOST : 7 + k);
+            }
+        }
     }
 
     private static void cells() {

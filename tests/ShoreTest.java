@@ -9,9 +9,12 @@ public final class ShoreTest {
         textsThatAreTaken();
         fewestAndMost();
         firstFaults();
+        codesLeftOutOrTwice();
+        partsLeftOut();
         beginningsOfTheLongest();
         rowsOfTexts();
         takenAnew();
+        changedThenAnew();
         refusalsOfShore();
         faultsOfShore();
         pools();
@@ -153,6 +156,58 @@ public final class ShoreTest {
         due.is("2: no codes", x.shore(0, 0, 5, 0), -100);
     }
 
+    /** Behind each text that is none the whole one is taken by the same object: nothing of the other is left. */
+    private static void codesLeftOutOrTwice() {
+        String whole = "r123,45,67;s08;c19";
+        int[] leftOut = {0, 3, 3, 3, 4, 6, 6, 7, 9, 9, 10, 11, 12, 13, 14, 15, 16, 17};
+        int[] twice = {1, 4, 4, 4, 5, 7, 7, 8, 10, 10, 11, 12, 14, 14, 15, 16, 18, 18};
+        TideSeats x = new TideSeats();
+        for (int place = 0; place < whole.length(); place++) {
+            String ahead = whole.substring(0, place);
+            firstFault(ahead + whole.substring(place + 1), leftOut[place]);
+            firstFault(ahead + whole.charAt(place) + whole.substring(place), twice[place]);
+            Due.shore(x, ahead + whole.substring(place + 1));
+            due.is("2: the whole text behind one without code " + place, Due.shore(x, whole), 2);
+            due.is("2: its last depth", x.ofPool(1, 1), 7);
+            due.is("2: its last view", x.ofMember(1, 2), 9);
+        }
+    }
+
+    private static void partsLeftOut() {
+        firstFault(",45,67;s08;c19", 0);
+        firstFault("r,45,67;s08;c19", 1);
+        firstFault("r1,45,67;s08;c19", 2);
+        firstFault("r123;s08;c19", 4);
+        firstFault("r123,45;s08;c19", 7);
+        firstFault("r123,,67;s08;c19", 5);
+        firstFault("r123,45,;s08;c19", 8);
+        firstFault("r123,45,67,;s08;c19", 11);
+        firstFault("r123,45,67,8;s08;c19", 12);
+        firstFault("r123,45,67;;c19", 11);
+        firstFault("r123,45,67;s;c19", 12);
+        firstFault("r123,45,67;s08;c", 16);
+        firstFault("r123,45,67;s08,89;c19", 14);
+    }
+
+    /** All that a text tells is as it tells it, whatever it was changed to ahead of it. */
+    private static void changedThenAnew() {
+        TideSeats x = Due.on(TEXT);
+        x.raise(0, 9);
+        x.sway(1, 9);
+        x.seat(2, 3);
+        x.flow(3);
+        x.calm(9);
+        x.leap(9);
+        x.tide(9);
+        due.is("2: the same text anew", Due.shore(x, TEXT), 5);
+        int[] got = {x.many(2), x.many(3), x.many(4), x.ofPool(0, 0), x.ofMember(1, 2), x.ofMember(2, 1), x.ofMember(3, 1)};
+        int[] want = {2, 1, 2, 3, 7, 0, 3};
+        for (int k = 0; k < got.length; k++) {
+            due.is("2: number " + k + " of the text anew", got[k], want[k]);
+        }
+        due.is("2: who sits in pool 0 anew", x.ofPool(0, 2), Due.set(0, 2));
+    }
+
     private static void takenAnew() {
         TideSeats x = Due.on(TEXT);
         x.reading(0, 9, 0);
@@ -267,6 +322,10 @@ public final class ShoreTest {
                 due.is("4: carried by, " + m + " at " + stream, x.ofMember(m, 3), steps[stream - 1][m]);
             }
         }
+        x = Due.on("r312,32,51,19;s25;c07;l11");
+        due.is("4: a shrimp, wherever it sits", x.ofMember(0, 3), 3);
+        due.is("4: a crab, wherever it sits", x.ofMember(1, 3), 2);
+        due.is("4: a limpet, wherever it sits", x.ofMember(2, 3), 1);
         due.is("4: UNKNOWN -1", x.ofMember(-1, 9), TideSeats.UNKNOWN);
         due.is("4: UNKNOWN 3", x.ofMember(3, 9), TideSeats.UNKNOWN);
         due.is("4: OUTSIDE 4", x.ofMember(0, 4), TideSeats.OUTSIDE);

@@ -127,6 +127,9 @@ public final class TideTest {
         due.is("15: one alone, in the sixth pool", x.passes(0), 32);
         due.is("16: one pool of one, though five are empty", x.law(0), 1);
         due.is("16: none of one", x.law(1), 0);
+        x = Due.on("r100,11,11,11,11,11,11;s00;s51");
+        due.is("16: one of two, in the first pool and the sixth", x.law(0), 0);
+        due.is("16: the other one of two", x.law(1), 0);
         x = Due.on("r100,11,11,11,11,11,11;s00;s10;s20;s31;s41;s51");
         due.is("15: three of six", x.passes(1), 56);
         due.is("16: three of six", x.law(1), 0);
@@ -234,6 +237,15 @@ public final class TideTest {
             x.put(lane, 0, -1);
             due.is("17: one below it", x.year(lane, lane, 0, 1, 1), TideSeats.OUTSIDE);
         }
+        x = Due.on("r100,11,11,11,11,11,11;s00;s50;s50");
+        x.sheet(3, 1, 1);
+        due.is("17: two pools, the first and the sixth", x.year(3, 1, 0, 0, 2), 2);
+        due.is("17: the sixth has the most", x.year(3, 1, 0, 0, 3), 5);
+        x = Due.on("r100,11,11;s00;s10;s10;s10;s10;s00");
+        x.sheet(3, 1, 1);
+        due.is("17: two pools of two", x.year(3, 1, 0, 0, 2), 2);
+        due.is("17: the second has the most", x.year(3, 1, 0, 0, 3), 1);
+        x = Due.on("r100,11,11,11,11,11,11;s20;s20;s20;s20;s20;s20");
         x.sheet(3, 1, 0);
         due.is("17: no tides of a sheet of none", x.year(3, 1, 0, 0, 1), TideSeats.NONE);
         due.is("17: all sit as they do now", x.year(3, 1, 0, 0, 2), 1);

@@ -20,6 +20,14 @@ final class World {
     private final TideSeats x = new TideSeats();
     private int calls;
 
+    private World() {
+    }
+
+    /** A new object: nothing is on its sheets, either. */
+    static World bare() {
+        return new World();
+    }
+
     World(Kind kind) {
         lay(0, 0, Due.codes(TEXT));
         lay(1, 2, TIDES);
